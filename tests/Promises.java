@@ -114,9 +114,12 @@ public final class Promises {
         due("viewOf(5)", x.viewOf(5), 1);
         due("colour(3, 2, 0)", x.colour(3, 2, 0), 5);
         due("colour(3, 2, 5)", x.colour(3, 2, 5), 0);
+        x.colour(3, 0, 6);
+        x.colour(3, 11, 7);
         x.removeView(3);
         due("addView()", x.addView(), 4);
         dueRow(x, 3, ZEROS);
+        readOf(x, ONES + "/" + ONES + "/" + ONES);
         readOf(x, ONES + "/" + ONES);
         x.addView();
         dueRow(x, 2, ZEROS);
@@ -356,6 +359,8 @@ public final class Promises {
         dueCounts(x, 2, 6, 0, 0, 0, 19, 2, 1015, 1005, 10, 5095);
         due("undo()", x.undo(), 3);
         due("count(7)", x.count(7), 1010);
+        due("count(8)", x.count(8), 1000);
+        due("count(9)", x.count(9), 10);
         due("count(10)", x.count(10), 5050);
         TiltedCards y = new TiltedCards();
         y.setPitch(6);
@@ -634,6 +639,10 @@ public final class Promises {
         due("at(0, -1)", x.at(0, -1), BAD_VALUE);
         due("at(0, LOW)", x.at(0, LOW), BAD_VALUE);
         TiltedCards y = new TiltedCards();
+        // a view that all but the ridge 0 show is not shown whole
+        y.setShift(1);
+        due("at(-9, 1)", y.at(-9, 1), NONE);
+        due("at(-9, 3)", y.at(-9, 3), 11);
         y.setShift(3);
         due("at(-9, 4)", y.at(-9, 4), 2);
         due("at(-9, 0)", y.at(-9, 0), 2);
@@ -739,6 +748,54 @@ public final class Promises {
         due("count(11)", x.count(11), 4);
         x.removeView(0);
         due("bestOrder(2)", x.bestOrder(2), 2);
+        int[][] settings = {{2, 4, 3, 1}, {2, 6, 1, -2}, {3, 5, 2, 0}, {3, 6, 3, -1}, {4, 4, 1, 2}, {4, 5, 2, -3},
+            {4, 6, 1, 0}, {4, 6, 3, 3}, {4, 3, 2, 1}, {3, 2, 1, -1}};
+        for (int[] setting : settings) {
+            dueBestOrder(setting[0], setting[1], setting[2], setting[3]);
+        }
+    }
+
+    private static final String[] CARDS = {"", "", ZEROS + "/" + ONES, ZEROS + "/" + ONES + "/" + RISING,
+        ZEROS + "/" + ONES + "/" + RISING + "/" + FALLING};
+
+    private static TiltedCards withOrder(int views, String order, int lean, int shift) {
+        TiltedCards x = cardOf(CARDS[views] + ":" + order);
+        x.setLean(lean);
+        x.setShift(shift);
+        return x;
+    }
+
+    // tries every order of slices, the least one first
+    private static void dueBestOrder(int views, int pitch, int lean, int shift) {
+        String best = "";
+        int fewest = HIGH;
+        for (int code = 0; code < Math.pow(views, pitch); code++) {
+            String order = "";
+            for (int s = 0, rest = code; s < pitch; s++, rest /= views) {
+                order = rest % views + order;
+            }
+            boolean each = true;
+            for (int v = 0; v < views; v++) {
+                each &= order.indexOf('0' + v) >= 0;
+            }
+            if (each || pitch < views) {
+                int ghosts = withOrder(views, order, lean, shift).count(4);
+                if (ghosts < fewest) {
+                    fewest = ghosts;
+                    best = order;
+                }
+            }
+        }
+        TiltedCards x = withOrder(views, best, lean, shift);
+        due("order() with " + best, x.order(), NONE);
+        x.slice(0, 1);
+        for (int s = 0; s < pitch; s++) {
+            due("bestOrder(" + s + ") with " + best, x.bestOrder(s), best.charAt(s) - '0');
+        }
+        due("order() to " + best, x.order(), fewest);
+        for (int s = 0; s < pitch; s++) {
+            due("viewOf(" + s + ") with " + best, x.viewOf(s), best.charAt(s) - '0');
+        }
     }
 
     private static void bestShift() {
