@@ -7,7 +7,11 @@ import java.lang.reflect.Method;
 import java.lang.reflect.Modifier;
 import java.nio.file.Files;
 import java.nio.file.Path;
+import java.util.ArrayList;
+import java.util.List;
+import java.util.Map;
 import java.util.Set;
+import java.util.TreeMap;
 import java.util.TreeSet;
 import java.util.regex.Matcher;
 import java.util.regex.Pattern;
@@ -24,7 +28,9 @@ public final class FaceAndLanguage {
         "\\bthrows?\\b", "\\btry\\b", "\\bcatch\\b", "\\bfinally\\b", "\\bsynchronized\\b", "\\bassert\\b",
         "\\bimport\\b", "\\bpackage\\b", "->", "::", "\\bException\\b", "\\bError\\b", "Exact\\b", "\\bSystem\\b",
         "\\bThread\\b", "\\bprotected\\b", "\\bobject\\b", "\\bObject\\b", "\\bvar\\b", "\"", "\\bnative\\b",
-        "\\bequals\\b", "\\bhashCode\\b", "\\btoString\\b", "\\bstatic\\s*\\{", "while\\s*\\(\\s*true"};
+        "\\bequals\\b", "\\bhashCode\\b", "\\btoString\\b", "\\bstatic\\s*\\{", "while\\s*\\(\\s*true",
+        // what a constructor could be handed of an object that is not made yet
+        "\\bnew [A-Z]\\w*\\([^)]", "(?<!\\.)\\bthis\\b(?!\\.)"};
 
     private static int wrong = 0;
 
@@ -105,6 +111,8 @@ public final class FaceAndLanguage {
         for (Field field : own.getDeclaredFields()) {
             if (Modifier.isStatic(field.getModifiers())) {
                 ask(Modifier.isFinal(field.getModifiers()), field.getName() + " is final");
+                // the class has no rows that are constants, so a static row would be one that calls change
+                ask(field.getType().isPrimitive(), field.getName() + " is a number");
             } else {
                 held++;
             }
@@ -112,9 +120,12 @@ public final class FaceAndLanguage {
         ask(held <= 20, own.getName() + " has at most twenty fields");
     }
 
-    private static void words() throws IOException {
-        String source = Files.readString(Path.of(SOURCE));
-        String code = source.replaceAll("(?s)/\\*.*?\\*/", " ").replaceAll("//[^\n]*", " ");
+    private static String withoutComments(String source) {
+        return source.replaceAll("(?s)/\\*.*?\\*/", " ").replaceAll("//[^\n]*", " ");
+    }
+
+    private static void words(String source) {
+        String code = withoutComments(source);
         for (String pattern : RULED_OUT) {
             Matcher found = Pattern.compile(pattern).matcher(code);
             ask(!found.find(), SOURCE + " is without " + pattern);
@@ -127,10 +138,76 @@ public final class FaceAndLanguage {
         }
     }
 
+    // what stands ahead of a dot, or is a kind of things, is the class's own, or of the library that it may use
+    private static void library(String source) {
+        Set<String> known = new TreeSet<>(Set.of("TiltedCards", "Math.max", "Math.min"));
+        for (Class<?> own : TiltedCards.class.getDeclaredClasses()) {
+            known.add(own.getSimpleName());
+        }
+        Matcher found = Pattern.compile("\\b[A-Z]\\w*[a-z]\\w*(\\.\\w+)?").matcher(withoutComments(source));
+        while (found.find()) {
+            ask(known.contains(found.group()), found.group() + " is known");
+        }
+    }
+
+    // the methods and constructors, each with its lines, by the places of the brackets
+    private static Map<String, List<String>> methods(String source) {
+        Map<String, List<String>> methods = new TreeMap<>();
+        Pattern head = Pattern.compile("(    |        )(?:[\\w\\[\\]]+ )*(\\w+)\\(.*\\) \\{");
+        String end = null;
+        List<String> body = null;
+        for (String line : withoutComments(source).split("\n")) {
+            Matcher found = head.matcher(line);
+            if (end == null && found.matches()) {
+                end = found.group(1) + "}";
+                body = new ArrayList<>();
+                ask(methods.put(found.group(2), body) == null, found.group(2) + " is the name of one method");
+            } else if (line.equals(end)) {
+                end = null;
+            } else if (end != null) {
+                body.add(line);
+            }
+        }
+        return methods;
+    }
+
+    private static void sizes(Map<String, List<String>> methods) {
+        List<Class<?>> classes = new ArrayList<>(List.of(TiltedCards.class.getDeclaredClasses()));
+        classes.add(TiltedCards.class);
+        for (Class<?> own : classes) {
+            for (Method method : own.getDeclaredMethods()) {
+                ask(method.getParameterCount() <= 7, method.getName() + " takes at most seven parameters");
+                ask(method.isSynthetic() || methods.containsKey(method.getName()), method.getName() + " is found");
+            }
+        }
+        for (String name : methods.keySet()) {
+            ask(methods.get(name).size() <= 60, name + " has at most sixty lines");
+            int depth = depth(methods, name, 1);
+            ask(depth <= 8, "calls of " + name + " go at most eight deep, not " + depth);
+        }
+    }
+
+    // how many calls stand open at once at most; more than that if methods call one another
+    private static int depth(Map<String, List<String>> methods, String name, int open) {
+        int deepest = open;
+        for (String line : methods.get(name)) {
+            Matcher call = Pattern.compile("(\\w+)\\(").matcher(line);
+            while (open <= 8 && call.find()) {
+                if (methods.containsKey(call.group(1))) {
+                    deepest = Math.max(deepest, depth(methods, call.group(1), open + 1));
+                }
+            }
+        }
+        return deepest;
+    }
+
     public static void main(String[] args) throws ReflectiveOperationException, IOException {
+        String source = Files.readString(Path.of(SOURCE));
         face();
         classesInside();
-        words();
+        words(source);
+        library(source);
+        sizes(methods(source));
         System.out.println(wrong == 0 ? "face and language are as they must be" : wrong + " rules are broken");
         if (wrong != 0) {
             System.exit(1);

@@ -28,11 +28,11 @@ public final class TiltedCards {
     /** No view, slice or ridge, and no fault either: below every number of one. */
     private static final int NOTHING = -1;
 
-    private final Card card = new Card();
-    private final Sight sight = new Sight(card);
+    private final Sight sight = new Sight();
+    private final Card card = sight.card;
+    private final Sight trialSight = new Sight();
     /** A card to try other settings with. */
-    private final Card trial = new Card();
-    private final Sight trialSight = new Sight(trial);
+    private final Card trial = trialSight.card;
     private final int[] bestSlices = new int[MAX_PITCH];
     private final History history = new History();
     private final Card snapshot = new Card();
@@ -648,17 +648,13 @@ public final class TiltedCards {
         }
     }
 
-    /** What an eye sees of a card. */
+    /** What an eye sees of a card. It makes the card, as a constructor is to hand out nothing of what it makes. */
     private static final class Sight {
-        private final Card card;
+        private final Card card = new Card();
         /** The slice that each ridge shows, or NOTHING, 12 for each step. */
         private final int[] slicesSeen = new int[MAX_PITCH * RIDGES];
         /** How many angles have the step. */
         private final int[] anglesOfStep = new int[MAX_PITCH];
-
-        Sight(Card card) {
-            this.card = card;
-        }
 
         /** To be called when the pitch, the shift or the lean may be another one. */
         void aim() {
